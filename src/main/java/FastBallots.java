@@ -11,6 +11,8 @@ public final class FastBallots {
     private static final int FIRST_COORDINATOR = 8;
     private static final int SECOND_COORDINATOR = 9;
     private static final int LEARNER = 10;
+    // Whom PROPOSE, ASK and VOTE FOR come from makes no difference to who takes them.
+    private static final int NOBODY = -1;
 
     private static final int PROPOSE = 1;
     private static final int ASK = 2;
@@ -18,7 +20,7 @@ public final class FastBallots {
     private static final int VOTE_FOR = 4;
     private static final int VOTED = 5;
 
-    // No value is 0, so 0 stands for "any" in VOTE FOR and for "none" elsewhere.
+    // No value and no round is 0, so 0 stands for "any" in VOTE FOR and for "none" elsewhere.
     private static final int ANY = 0;
     private static final int NONE = 0;
 
@@ -46,10 +48,10 @@ public final class FastBallots {
             return BAD;
         }
         for (int a = 0; a < sizes.acceptors; a++) {
-            mail.send(PROPOSE, slot, 0, a, value);
+            mail.send(PROPOSE, slot, NONE, NOBODY, a, value, NONE);
         }
-        mail.send(PROPOSE, slot, 0, FIRST_COORDINATOR, value);
-        mail.send(PROPOSE, slot, 0, SECOND_COORDINATOR, value);
+        mail.send(PROPOSE, slot, NONE, NOBODY, FIRST_COORDINATOR, value, NONE);
+        mail.send(PROPOSE, slot, NONE, NOBODY, SECOND_COORDINATOR, value, NONE);
         return mail.count;
     }
 
@@ -71,8 +73,16 @@ public final class FastBallots {
             return BAD;
         }
         Message taken = mail.take(i);
-        if (!halted[taken.to]) {
-            slots[taken.slot].hear(taken);
+        Slot slot = slots[taken.slot];
+        if (halted[taken.to]) {
+            return taken.kind;
+        }
+        if (taken.to == LEARNER) {
+            slot.told.record(taken.round, taken.from, taken.value);
+        } else if (isCoordinator(taken.to)) {
+            slot.coordinator(taken.to).hear(taken);
+        } else {
+            slot.acceptors[taken.to].hear(taken);
         }
         return taken.kind;
     }
@@ -221,17 +231,23 @@ public final class FastBallots {
         int kind;
         int slot;
         int round;
+        int from;
         int to;
         int value;
-        int from;
         int ballotRound;
     }
 
     /** The messages that wait, in the order in which they were sent, a row of cells each. */
     private static final class Mail {
         static final int ROOM = 60;
+        static final int KIND = 0;
+        static final int SLOT = 1;
+        static final int ROUND = 2;
+        static final int FROM = 3;
+        static final int TO = 4;
+        static final int VALUE = 5;
+        static final int BALLOT_ROUND = 6;
         static final int WIDTH = 7;
-        static final int NOBODY = -1;
 
         final int[] cells = new int[ROOM * WIDTH];
         // One message is under way at a time, so that one object serves for all.
@@ -243,23 +259,19 @@ public final class FastBallots {
             return i >= 0 && i < count;
         }
 
-        void send(int kind, int slot, int round, int to, int value) {
-            sendFrom(NOBODY, kind, slot, round, to, value, 0);
-        }
-
-        void sendFrom(int from, int kind, int slot, int round, int to, int value, int ballotRound) {
+        void send(int kind, int slot, int round, int from, int to, int value, int ballotRound) {
             if (count >= ROOM) {
                 lostCount++;
                 return;
             }
             int row = count * WIDTH;
-            cells[row] = kind;
-            cells[row + 1] = slot;
-            cells[row + 2] = round;
-            cells[row + 3] = to;
-            cells[row + 4] = value;
-            cells[row + 5] = from;
-            cells[row + 6] = ballotRound;
+            cells[row + KIND] = kind;
+            cells[row + SLOT] = slot;
+            cells[row + ROUND] = round;
+            cells[row + FROM] = from;
+            cells[row + TO] = to;
+            cells[row + VALUE] = value;
+            cells[row + BALLOT_ROUND] = ballotRound;
             count++;
         }
 
@@ -267,13 +279,13 @@ public final class FastBallots {
         // what is sent in answer.
         Message take(int i) {
             int row = i * WIDTH;
-            taken.kind = cells[row];
-            taken.slot = cells[row + 1];
-            taken.round = cells[row + 2];
-            taken.to = cells[row + 3];
-            taken.value = cells[row + 4];
-            taken.from = cells[row + 5];
-            taken.ballotRound = cells[row + 6];
+            taken.kind = cells[row + KIND];
+            taken.slot = cells[row + SLOT];
+            taken.round = cells[row + ROUND];
+            taken.from = cells[row + FROM];
+            taken.to = cells[row + TO];
+            taken.value = cells[row + VALUE];
+            taken.ballotRound = cells[row + BALLOT_ROUND];
             remove(i);
             return taken;
         }
@@ -286,11 +298,12 @@ public final class FastBallots {
 
         int label(int i) {
             int row = i * WIDTH;
-            return 100000 * cells[row] + 10000 * cells[row + 1] + 100 * cells[row + 2] + cells[row + 3];
+            int told = 100000 * cells[row + KIND] + 10000 * cells[row + SLOT];
+            return told + 100 * cells[row + ROUND] + cells[row + TO];
         }
 
         int valueIn(int i) {
-            return cells[i * WIDTH + 4];
+            return cells[i * WIDTH + VALUE];
         }
     }
 
@@ -315,16 +328,6 @@ public final class FastBallots {
 
         Coordinator coordinator(int who) {
             return who == FIRST_COORDINATOR ? first : second;
-        }
-
-        void hear(Message m) {
-            if (m.to == LEARNER) {
-                told.record(m.round, m.from, m.value);
-            } else if (isCoordinator(m.to)) {
-                coordinator(m.to).hear(m);
-            } else {
-                acceptors[m.to].hear(m);
-            }
         }
     }
 
@@ -413,7 +416,7 @@ public final class FastBallots {
                 return;
             }
             current = asked;
-            mail.sendFrom(number, PROMISE, slot, asked, coordinatorOf(asked), ballot, ballotRound);
+            mail.send(PROMISE, slot, asked, number, coordinatorOf(asked), ballot, ballotRound);
         }
 
         private void hearVoteFor(int asked, int wanted) {
@@ -435,8 +438,8 @@ public final class FastBallots {
             ballot = wanted;
             ballotRound = inRound;
             cast.record(inRound, number, wanted);
-            mail.sendFrom(number, VOTED, slot, inRound, coordinatorOf(inRound), wanted, 0);
-            mail.sendFrom(number, VOTED, slot, inRound, LEARNER, wanted, 0);
+            mail.send(VOTED, slot, inRound, number, coordinatorOf(inRound), wanted, NONE);
+            mail.send(VOTED, slot, inRound, number, LEARNER, wanted, NONE);
         }
     }
 
@@ -542,7 +545,7 @@ public final class FastBallots {
             return mostIn(leading) + silent >= sizes.fastQuorum;
         }
 
-        // 0 when it is free.
+        // Answers NONE when the coordinator is free.
         private int pick() {
             int latest = latestRound();
             if (latest == NONE) {
@@ -631,7 +634,7 @@ public final class FastBallots {
 
         private void sendToAll(int kind, int wanted) {
             for (int a = 0; a < sizes.acceptors; a++) {
-                mail.send(kind, slot, leading, a, wanted);
+                mail.send(kind, slot, leading, NOBODY, a, wanted, NONE);
             }
         }
     }

@@ -1,0 +1,104 @@
+/** Promise 1, a new object, and promise 19, size. */
+public final class NewObjectTest {
+    // N, Q, F of every pair that the document allows, worked out by hand.
+    private static final int[][] ALLOWED = {
+        {3, 2, 3}, {3, 3, 2}, {3, 3, 3},
+        {4, 3, 3}, {4, 3, 4}, {4, 4, 3}, {4, 4, 4},
+        {5, 3, 4}, {5, 3, 5}, {5, 4, 4}, {5, 4, 5}, {5, 5, 3}, {5, 5, 4}, {5, 5, 5},
+    };
+    private static final int[][] OTHERWISE = {{3, 2, 3}, {4, 3, 3}, {5, 3, 4}};
+
+    private static final Due DUE = new Due();
+
+    public static void main(String[] args) {
+        promise1EveryPairOfQuorums();
+        promise1AcceptorsAreThreeToFive();
+        promise1QuorumsFarOutOfRange();
+        promise1QuorumsCountedAgainstTheAcceptorsThereAre();
+        promise1NothingHasHappened();
+        promise19Size();
+        DUE.end();
+    }
+
+    private static void sizes(int[] made, int n, int q, int f) {
+        DUE.at("new(" + made[0] + ", " + made[1] + ", " + made[2] + ")");
+        FastBallots x = new FastBallots(made[0], made[1], made[2]);
+        DUE.is("size(0)", x.size(0), n);
+        DUE.is("size(1)", x.size(1), q);
+        DUE.is("size(2)", x.size(2), f);
+    }
+
+    private static boolean allowed(int n, int q, int f) {
+        for (int[] row : ALLOWED) {
+            if (row[0] == n && row[1] == q && row[2] == f) {
+                return true;
+            }
+        }
+        return false;
+    }
+
+    private static void promise1EveryPairOfQuorums() {
+        for (int[] other : OTHERWISE) {
+            int n = other[0];
+            for (int q = -2; q <= n + 2; q++) {
+                for (int f = -2; f <= n + 2; f++) {
+                    boolean kept = allowed(n, q, f);
+                    sizes(new int[] {n, q, f}, n, kept ? q : other[1], kept ? f : other[2]);
+                }
+            }
+        }
+    }
+
+    private static void promise1AcceptorsAreThreeToFive() {
+        for (int few : new int[] {2, 1, 0, -1, Integer.MIN_VALUE}) {
+            sizes(new int[] {few, 3, 2}, 3, 3, 2);
+        }
+        for (int many : new int[] {6, 7, 100, Integer.MAX_VALUE}) {
+            sizes(new int[] {many, 5, 3}, 5, 5, 3);
+        }
+    }
+
+    private static void promise1QuorumsFarOutOfRange() {
+        for (int odd : new int[] {Integer.MIN_VALUE, Integer.MAX_VALUE, 1 << 30, (1 << 30) + 2}) {
+            sizes(new int[] {4, odd, 4}, 4, 3, 3);
+            sizes(new int[] {4, 4, odd}, 4, 3, 3);
+            sizes(new int[] {5, odd, odd}, 5, 3, 4);
+        }
+    }
+
+    private static void promise1QuorumsCountedAgainstTheAcceptorsThereAre() {
+        sizes(new int[] {9, 6, 6}, 5, 3, 4);
+        sizes(new int[] {9, 5, 5}, 5, 5, 5);
+        sizes(new int[] {1, 1, 1}, 3, 2, 3);
+    }
+
+    private static void promise1NothingHasHappened() {
+        DUE.at("a new object");
+        Run run = new Run(DUE, 4, 3, 3);
+        DUE.is("waiting()", run.x.waiting(), 0);
+        DUE.is("lost()", run.x.lost(), 0);
+        DUE.is("message(0)", run.x.message(0), FastBallots.BAD);
+        for (int who : new int[] {0, 1, 2, 3, 8, 9, 10}) {
+            DUE.is("halt(" + who + ", false)", run.x.halt(who, false), false);
+        }
+        for (int slot = 0; slot < 3; slot++) {
+            for (int a = 0; a < 4; a++) {
+                run.acceptor(a, slot, 0, 0, 0);
+            }
+            run.coordinator(8, slot, 0, 0);
+            run.coordinator(9, slot, 0, 0);
+            DUE.is("learned(" + slot + ")", run.x.learned(slot), 0);
+            DUE.is("chosen(" + slot + ")", run.x.chosen(slot), 0);
+            DUE.is("votes(" + slot + ", 1, 1)", run.x.votes(slot, 1, 1), 0);
+        }
+    }
+
+    private static void promise19Size() {
+        DUE.at("size of others");
+        FastBallots x = new FastBallots(5, 5, 3);
+        for (int what : new int[] {-1, 3, 4, Integer.MIN_VALUE, Integer.MAX_VALUE}) {
+            DUE.is("size(" + what + ")", x.size(what), FastBallots.BAD);
+        }
+        DUE.is("BAD", FastBallots.BAD, -1);
+    }
+}
