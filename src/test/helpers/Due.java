@@ -8,14 +8,14 @@ final class Due {
         place = newPlace;
     }
 
-    void is(String call, int got, int want) {
+    void is(Object call, int got, int want) {
         asked++;
         if (got != want) {
             tell(call + " answered " + got + ", due is " + want);
         }
     }
 
-    void is(String call, boolean got, boolean want) {
+    void is(Object call, boolean got, boolean want) {
         asked++;
         if (got != want) {
             tell(call + " answered " + got + ", due is " + want);

@@ -12,7 +12,7 @@ import java.util.TreeSet;
  * The document told a second time, with maps and lists and as near to its words as may be,
  * to hold the program against in runs that nobody worked out by hand.
  */
-final class Model {
+final class Model implements Face {
     record Note(int kind, int slot, int round, int from, int to, int value, int voteRound) { }
 
     static final class Acc {
@@ -81,7 +81,8 @@ final class Model {
         }
     }
 
-    int propose(int slot, int value) {
+    @Override
+    public int propose(int slot, int value) {
         if (!slotOk(slot) || value < 1 || value > 1000) {
             return -1;
         }
@@ -91,7 +92,8 @@ final class Model {
         return notes.size();
     }
 
-    int begin(int slot, int round) {
+    @Override
+    public int begin(int slot, int round) {
         if (!slotOk(slot) || round < 1 || round > 12 || halted.contains(owner(round))) {
             return -1;
         }
@@ -107,7 +109,8 @@ final class Model {
         return notes.size();
     }
 
-    int deliver(int i) {
+    @Override
+    public int deliver(int i) {
         if (i < 0 || i >= notes.size()) {
             return -1;
         }
@@ -124,7 +127,8 @@ final class Model {
         return note.kind;
     }
 
-    boolean drop(int i) {
+    @Override
+    public boolean drop(int i) {
         if (i < 0 || i >= notes.size()) {
             return false;
         }
@@ -132,7 +136,8 @@ final class Model {
         return true;
     }
 
-    boolean halt(int who, boolean on) {
+    @Override
+    public boolean halt(int who, boolean on) {
         if (!accOk(who) && !Set.of(8, 9, 10).contains(who)) {
             return false;
         }
@@ -255,7 +260,18 @@ final class Model {
                 .mapToInt(Note::from).distinct().count();
     }
 
-    int message(int i) {
+    @Override
+    public int waiting() {
+        return notes.size();
+    }
+
+    @Override
+    public int lost() {
+        return lost;
+    }
+
+    @Override
+    public int message(int i) {
         if (i < 0 || i >= notes.size()) {
             return -1;
         }
@@ -263,35 +279,43 @@ final class Model {
         return 100000 * note.kind + 10000 * note.slot + 100 * note.round + note.to;
     }
 
-    int value(int i) {
+    @Override
+    public int value(int i) {
         return i < 0 || i >= notes.size() ? -1 : notes.get(i).value;
     }
 
-    int round(int acceptor, int slot) {
+    @Override
+    public int round(int acceptor, int slot) {
         return accOk(acceptor) && slotOk(slot) ? acc(acceptor, slot).round : -1;
     }
 
-    int vote(int acceptor, int slot) {
+    @Override
+    public int vote(int acceptor, int slot) {
         return accOk(acceptor) && slotOk(slot) ? acc(acceptor, slot).vote : -1;
     }
 
-    int voteRound(int acceptor, int slot) {
+    @Override
+    public int voteRound(int acceptor, int slot) {
         return accOk(acceptor) && slotOk(slot) ? acc(acceptor, slot).voteRound : -1;
     }
 
-    int leads(int coordinator, int slot) {
+    @Override
+    public int leads(int coordinator, int slot) {
         return Set.of(8, 9).contains(coordinator) && slotOk(slot) ? coord(coordinator, slot).leads : -1;
     }
 
-    int phase(int coordinator, int slot) {
+    @Override
+    public int phase(int coordinator, int slot) {
         return Set.of(8, 9).contains(coordinator) && slotOk(slot) ? coord(coordinator, slot).phase : -1;
     }
 
-    int learned(int slot) {
+    @Override
+    public int learned(int slot) {
         return slotOk(slot) ? learned[slot] : -1;
     }
 
-    int chosen(int slot) {
+    @Override
+    public int chosen(int slot) {
         if (!slotOk(slot)) {
             return -1;
         }
@@ -307,14 +331,16 @@ final class Model {
         return found.isEmpty() ? 0 : found.iterator().next();
     }
 
-    int votes(int slot, int round, int value) {
+    @Override
+    public int votes(int slot, int round, int value) {
         if (!slotOk(slot) || round < 1 || round > 12 || value < 1 || value > 1000) {
             return -1;
         }
         return count(everVoted, slot, round, value);
     }
 
-    int size(int what) {
+    @Override
+    public int size(int what) {
         return what == 0 ? n : what == 1 ? q : what == 2 ? f : -1;
     }
 }

@@ -7,23 +7,24 @@ final class Run {
     static final int VOTED = 5;
     static final int LEARNER = 10;
 
-    final FastBallots x;
+    final Used x;
     private final Due due;
 
     Run(Due due, int acceptors, int classic, int fast) {
         this.due = due;
-        x = new FastBallots(acceptors, classic, fast);
+        x = new Used(acceptors, classic, fast);
     }
 
     /** The number of the first message of this kind, or -1. */
     int find(int kind, int slot, int round, int to) {
         int label = 100000 * kind + 10000 * slot + 100 * round + to;
-        for (int i = 0; i < x.waiting(); i++) {
-            if (x.message(i) == label) {
-                return i;
-            }
+        int i = 0;
+        int told = x.message(0);
+        while (told != label && told != FastBallots.BAD) {
+            i++;
+            told = x.message(i);
         }
-        return -1;
+        return told == label ? i : -1;
     }
 
     void hand(int kind, int slot, int round, int... receivers) {

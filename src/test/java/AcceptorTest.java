@@ -20,7 +20,7 @@ public final class AcceptorTest {
     private static void refusedForOthers() {
         for (int n = 3; n <= 5; n++) {
             DUE.at("no such acceptor or slot among " + n);
-            FastBallots x = new FastBallots(n, 0, 0);
+            Used x = new Used(n, 0, 0);
             for (int a : new int[] {-1, n, 8, 9, 10, Integer.MIN_VALUE, Integer.MAX_VALUE}) {
                 refused(x, a, 0);
             }
@@ -31,7 +31,7 @@ public final class AcceptorTest {
         }
     }
 
-    private static void refused(FastBallots x, int acceptor, int slot) {
+    private static void refused(Used x, int acceptor, int slot) {
         DUE.is("round(" + acceptor + ", " + slot + ")", x.round(acceptor, slot), FastBallots.BAD);
         DUE.is("vote(" + acceptor + ", " + slot + ")", x.vote(acceptor, slot), FastBallots.BAD);
         DUE.is("voteRound(" + acceptor + ", " + slot + ")", x.voteRound(acceptor, slot), FastBallots.BAD);

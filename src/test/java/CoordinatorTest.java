@@ -36,7 +36,7 @@ public final class CoordinatorTest {
     private static void promise3AsksAllInOrder() {
         for (int n = 3; n <= 5; n++) {
             DUE.at("begin among " + n);
-            FastBallots x = new FastBallots(n, 0, 0);
+            Used x = new Used(n, 0, 0);
             DUE.is("begin(2, 7)", x.begin(2, 7), n);
             DUE.is("begin(0, 12)", x.begin(0, 12), 2 * n);
             for (int a = 0; a < n; a++) {
@@ -49,7 +49,7 @@ public final class CoordinatorTest {
     private static void promise3Refused() {
         DUE.at("begin refused");
         Run run = new Run(DUE, 3, 2, 3);
-        FastBallots x = run.x;
+        Used x = run.x;
         for (int odd : ODD) {
             DUE.is("begin(" + odd + ", 1)", x.begin(odd, 1), BAD);
             DUE.is("begin(0, " + odd + ")", x.begin(0, odd), BAD);
@@ -108,7 +108,7 @@ public final class CoordinatorTest {
 
     private static void promises14And15RefusedForOthers() {
         DUE.at("no such coordinator or slot");
-        FastBallots x = new FastBallots(5, 3, 4);
+        Used x = new Used(5, 3, 4);
         for (int who : new int[] {-1, 0, 4, 7, 10, Integer.MIN_VALUE, Integer.MAX_VALUE}) {
             DUE.is("leads(" + who + ", 0)", x.leads(who, 0), BAD);
             DUE.is("phase(" + who + ", 0)", x.phase(who, 0), BAD);

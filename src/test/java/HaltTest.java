@@ -15,7 +15,7 @@ public final class HaltTest {
     private static void promise6WhoCanBeHalted() {
         for (int n = 3; n <= 5; n++) {
             DUE.at("halt among " + n);
-            FastBallots x = new FastBallots(n, 0, 0);
+            Used x = new Used(n, 0, 0);
             for (int who = -2; who <= 13; who++) {
                 boolean there = who >= 0 && who < n || who >= 8 && who <= 10;
                 DUE.is("halt(" + who + ", false)", x.halt(who, false), false);

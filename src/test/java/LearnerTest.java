@@ -19,7 +19,7 @@ public final class LearnerTest {
 
     private static void refusedForOthers() {
         DUE.at("no such slot, round or value");
-        FastBallots x = new FastBallots(3, 2, 3);
+        Used x = new Used(3, 2, 3);
         for (int slot : new int[] {-1, 3, Integer.MIN_VALUE, Integer.MAX_VALUE}) {
             DUE.is("learned(" + slot + ")", x.learned(slot), BAD);
             DUE.is("chosen(" + slot + ")", x.chosen(slot), BAD);

@@ -26,7 +26,7 @@ public final class MailTest {
     private static void promise2GoesToAllInOrder() {
         for (int n = 3; n <= 5; n++) {
             DUE.at("propose to " + n);
-            FastBallots x = new FastBallots(n, 0, 0);
+            Used x = new Used(n, 0, 0);
             DUE.is("propose(2, 1)", x.propose(2, 1), n + 2);
             DUE.is("propose(0, 1000)", x.propose(0, 1000), 2 * (n + 2));
             for (int a = 0; a < n; a++) {
@@ -43,7 +43,7 @@ public final class MailTest {
 
     private static void promise2Refused() {
         DUE.at("propose refused");
-        FastBallots x = new FastBallots(3, 2, 3);
+        Used x = new Used(3, 2, 3);
         for (int slot : ODD) {
             DUE.is("propose(" + slot + ", 1)", x.propose(slot, 1), BAD);
         }
@@ -56,7 +56,7 @@ public final class MailTest {
 
     private static void promise4AnswersEachKind() {
         DUE.at("deliver each kind");
-        FastBallots x = new FastBallots(3, 2, 3);
+        Used x = new Used(3, 2, 3);
         x.propose(0, 6);
         DUE.is("PROPOSE", x.deliver(0), 1);
         x.begin(0, 1);
@@ -72,7 +72,7 @@ public final class MailTest {
 
     private static void promise4RefusedWhereThereIsNone() {
         DUE.at("deliver where there is none");
-        FastBallots x = new FastBallots(3, 2, 3);
+        Used x = new Used(3, 2, 3);
         DUE.is("deliver(0)", x.deliver(0), BAD);
         x.begin(0, 1);
         for (int i : ODD) {
@@ -82,7 +82,7 @@ public final class MailTest {
         DUE.is("round(0, 0)", x.round(0, 0), 0);
     }
 
-    private static FastBallots crowded(Run run) {
+    private static Used crowded(Run run) {
         while (run.x.waiting() < 60) {
             run.x.propose(2, 5);
         }
@@ -94,7 +94,7 @@ public final class MailTest {
         Run run = new Run(DUE, 3, 2, 3);
         run.proposeTo(0, 9, 0);
         run.askAndPromise(0, 1, 1, 2);
-        FastBallots x = crowded(run);
+        Used x = crowded(run);
         int lost = x.lost();
         run.hand(Run.ASK, 0, 1, 0);
         DUE.is("PROMISE takes the room of ASK", x.message(59), 300108);
@@ -108,7 +108,7 @@ public final class MailTest {
 
     private static void promise4And5NumbersGoDown() {
         DUE.at("numbers of those that come later");
-        FastBallots x = new FastBallots(3, 2, 3);
+        Used x = new Used(3, 2, 3);
         x.propose(1, 4);
         x.begin(0, 3);
         DUE.is("deliver(1)", x.deliver(1), 1);
@@ -128,7 +128,7 @@ public final class MailTest {
 
     private static void promise5Drop() {
         DUE.at("drop");
-        FastBallots x = new FastBallots(3, 2, 3);
+        Used x = new Used(3, 2, 3);
         DUE.is("drop(0)", x.drop(0), false);
         x.begin(0, 1);
         for (int i : ODD) {
@@ -143,7 +143,7 @@ public final class MailTest {
 
     private static void promise7And8SixtyCanWait() {
         DUE.at("sixty can wait");
-        FastBallots x = new FastBallots(5, 3, 4);
+        Used x = new Used(5, 3, 4);
         for (int k = 1; k <= 8; k++) {
             DUE.is("propose(0, 1)", x.propose(0, 1), 7 * k);
             DUE.is("waiting()", x.waiting(), 7 * k);
@@ -168,7 +168,7 @@ public final class MailTest {
     private static void promise8LostIsNotSentLater() {
         DUE.at("lost is not sent later");
         Run run = new Run(DUE, 3, 2, 3);
-        FastBallots x = crowded(run);
+        Used x = crowded(run);
         x.begin(0, 1);
         DUE.is("lost()", x.lost(), 3);
         run.clear();
@@ -181,7 +181,7 @@ public final class MailTest {
     private static void promise9And10TellEveryKind() {
         DUE.at("message and value of every kind");
         Run run = new Run(DUE, 4, 3, 3);
-        FastBallots x = run.x;
+        Used x = run.x;
         run.proposeTo(2, 321, 9);
         run.askAndPromise(2, 12, 0, 1, 3);
         DUE.is("ASK", x.message(0), 221202);
@@ -210,7 +210,7 @@ public final class MailTest {
 
     private static void promise9And10RefusedWhereThereIsNone() {
         DUE.at("message and value where there is none");
-        FastBallots x = new FastBallots(3, 2, 3);
+        Used x = new Used(3, 2, 3);
         DUE.is("message(0)", x.message(0), BAD);
         DUE.is("value(0)", x.value(0), BAD);
         x.begin(0, 1);

@@ -22,7 +22,7 @@ public final class NewObjectTest {
 
     private static void sizes(int[] made, int n, int q, int f) {
         DUE.at("new(" + made[0] + ", " + made[1] + ", " + made[2] + ")");
-        FastBallots x = new FastBallots(made[0], made[1], made[2]);
+        Used x = new Used(made[0], made[1], made[2]);
         DUE.is("size(0)", x.size(0), n);
         DUE.is("size(1)", x.size(1), q);
         DUE.is("size(2)", x.size(2), f);
@@ -95,7 +95,7 @@ public final class NewObjectTest {
 
     private static void promise19Size() {
         DUE.at("size of others");
-        FastBallots x = new FastBallots(5, 5, 3);
+        Used x = new Used(5, 5, 3);
         for (int what : new int[] {-1, 3, 4, Integer.MIN_VALUE, Integer.MAX_VALUE}) {
             DUE.is("size(" + what + ")", x.size(what), FastBallots.BAD);
         }
