@@ -52,6 +52,29 @@ final class Run {
         }
     }
 
+    /** Values for slot 2 are proposed until just so many messages wait; some may be lost on the way. */
+    void fillTo(int count) {
+        while (x.waiting() < count) {
+            x.propose(2, 999);
+        }
+        while (x.drop(count)) {
+            continue;
+        }
+    }
+
+    /** While no other message waits, a value comes to this acceptor alone. */
+    void give(int slot, int value, int acceptor) {
+        x.propose(slot, value);
+        x.deliver(acceptor);
+        clear();
+    }
+
+    void deliverFirst(int times) {
+        for (int k = 0; k < times; k++) {
+            x.deliver(0);
+        }
+    }
+
     /** A value comes to these alone; what was sent to the others is dropped. */
     void proposeTo(int slot, int value, int... receivers) {
         int before = x.waiting();

@@ -14,6 +14,7 @@ public final class CoordinatorTest {
         promise15FastAndFree();
         promise15ClassicAndFree();
         promise15WaitingForAValue();
+        valueThatIsNotWaitedFor();
         promisesThatDoNotCount();
         slotsStandApart();
         DUE.end();
@@ -97,6 +98,17 @@ public final class CoordinatorTest {
         votes.hand(Run.PROMISE, 0, 5, 8);
         votes.coordinator(8, 0, 5, 1);
 
+        DUE.at("begin forgets the votes that promises told");
+        Run told = new Run(DUE, 3, 2, 3);
+        told.proposeTo(0, 9, 2);
+        told.askAndPromise(0, 1, 0, 1);
+        told.hand(Run.VOTE_FOR, 0, 1, 2);
+        told.clear();
+        told.askAndPromise(0, 2, 2);
+        told.askAndPromise(0, 5, 0, 1);
+        told.coordinator(8, 0, 5, 3);
+        DUE.is("VOTE FOR any", told.x.value(told.find(Run.VOTE_FOR, 0, 5, 0)), 0);
+
         DUE.at("begin keeps the first value");
         Run value = new Run(DUE, 3, 2, 3);
         value.x.begin(0, 2);
@@ -179,6 +191,32 @@ public final class CoordinatorTest {
         }
         run.proposeTo(0, 6, 8);
         DUE.is("a second value does nothing", run.x.waiting(), 3);
+    }
+
+    private static void valueThatIsNotWaitedFor() {
+        DUE.at("PROPOSE before it leads a round");
+        Run run = new Run(DUE, 3, 2, 3);
+        run.proposeTo(0, 5, 8);
+        DUE.is("waiting()", run.x.waiting(), 0);
+        run.coordinator(8, 0, 0, 0);
+
+        DUE.at("PROPOSE in phase 1");
+        Run asking = new Run(DUE, 3, 2, 3);
+        asking.askAndPromise(0, 2, 0);
+        asking.proposeTo(0, 5, 8);
+        asking.coordinator(8, 0, 2, 1);
+        DUE.is("waiting()", asking.x.waiting(), 2);
+
+        DUE.at("PROPOSE in phase 3");
+        Run voting = new Run(DUE, 3, 2, 3);
+        voting.askAndPromise(0, 1, 0, 1);
+        voting.coordinator(8, 0, 1, 3);
+        voting.proposeTo(0, 5, 8);
+        voting.coordinator(8, 0, 1, 3);
+        DUE.is("waiting()", voting.x.waiting(), 4);
+        voting.clear();
+        voting.askAndPromise(0, 2, 0, 1);
+        DUE.is("it is kept all the same", voting.x.value(voting.find(Run.VOTE_FOR, 0, 2, 0)), 5);
     }
 
     private static void promisesThatDoNotCount() {

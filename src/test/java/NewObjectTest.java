@@ -1,21 +1,20 @@
 /** Promise 1, a new object, and promise 19, size. */
 public final class NewObjectTest {
-    // N, Q, F of every pair that the document allows, worked out by hand.
-    private static final int[][] ALLOWED = {
-        {3, 2, 3}, {3, 3, 2}, {3, 3, 3},
-        {4, 3, 3}, {4, 3, 4}, {4, 4, 3}, {4, 4, 4},
-        {5, 3, 4}, {5, 3, 5}, {5, 4, 4}, {5, 4, 5}, {5, 5, 3}, {5, 5, 4}, {5, 5, 5},
-    };
-    private static final int[][] OTHERWISE = {{3, 2, 3}, {4, 3, 3}, {5, 3, 4}};
-
     private static final Due DUE = new Due();
 
     public static void main(String[] args) {
         promise1EveryPairOfQuorums();
-        promise1AcceptorsAreThreeToFive();
-        promise1QuorumsFarOutOfRange();
+        promise1ThreeWhenLess();
+        promise1FiveWhenMore();
+        promise1ClassicIsOneToN();
+        promise1FastIsOneToN();
+        promise1QuorumsOutOfRangeTogether();
+        promise1TwiceClassicIsMoreThanN();
+        promise1ClassicAndTwiceFastIsMoreThanTwiceN();
         promise1QuorumsCountedAgainstTheAcceptorsThereAre();
-        promise1NothingHasHappened();
+        for (int n = 3; n <= 5; n++) {
+            promise1NothingHasHappened(n);
+        }
         promise19Size();
         DUE.end();
     }
@@ -28,42 +27,87 @@ public final class NewObjectTest {
         DUE.is("size(2)", x.size(2), f);
     }
 
-    private static boolean allowed(int n, int q, int f) {
-        for (int[] row : ALLOWED) {
-            if (row[0] == n && row[1] == q && row[2] == f) {
-                return true;
-            }
-        }
-        return false;
-    }
-
     private static void promise1EveryPairOfQuorums() {
-        for (int[] other : OTHERWISE) {
+        for (int[] other : Quorums.OTHERWISE) {
             int n = other[0];
             for (int q = -2; q <= n + 2; q++) {
                 for (int f = -2; f <= n + 2; f++) {
-                    boolean kept = allowed(n, q, f);
+                    boolean kept = Quorums.allowed(n, q, f);
                     sizes(new int[] {n, q, f}, n, kept ? q : other[1], kept ? f : other[2]);
                 }
             }
         }
     }
 
-    private static void promise1AcceptorsAreThreeToFive() {
-        for (int few : new int[] {2, 1, 0, -1, Integer.MIN_VALUE}) {
+    private static void promise1ThreeWhenLess() {
+        sizes(new int[] {4, 4, 4}, 4, 4, 4);
+        sizes(new int[] {3, 3, 2}, 3, 3, 2);
+        for (int few : new int[] {2, 1, 0, -1, -1000, Integer.MIN_VALUE + 1, Integer.MIN_VALUE}) {
             sizes(new int[] {few, 3, 2}, 3, 3, 2);
         }
-        for (int many : new int[] {6, 7, 100, Integer.MAX_VALUE}) {
+    }
+
+    private static void promise1FiveWhenMore() {
+        sizes(new int[] {4, 4, 3}, 4, 4, 3);
+        sizes(new int[] {5, 5, 3}, 5, 5, 3);
+        for (int many : new int[] {6, 7, 100, 1 << 8, 1 << 16, Integer.MAX_VALUE - 1, Integer.MAX_VALUE}) {
             sizes(new int[] {many, 5, 3}, 5, 5, 3);
         }
     }
 
-    private static void promise1QuorumsFarOutOfRange() {
-        for (int odd : new int[] {Integer.MIN_VALUE, Integer.MAX_VALUE, 1 << 30, (1 << 30) + 2}) {
-            sizes(new int[] {4, odd, 4}, 4, 3, 3);
-            sizes(new int[] {4, 4, odd}, 4, 3, 3);
-            sizes(new int[] {5, odd, odd}, 5, 3, 4);
+    // The other one is N, so that only the one in question can be the cause.
+    private static void promise1ClassicIsOneToN() {
+        for (int[] other : Quorums.OTHERWISE) {
+            int n = other[0];
+            sizes(new int[] {n, n, n}, n, n, n);
+            for (int classic : Bounds.outside(1, n)) {
+                sizes(new int[] {n, classic, n}, n, other[1], other[2]);
+            }
         }
+    }
+
+    private static void promise1FastIsOneToN() {
+        for (int[] other : Quorums.OTHERWISE) {
+            int n = other[0];
+            sizes(new int[] {n, n, n}, n, n, n);
+            for (int fast : Bounds.outside(1, n)) {
+                sizes(new int[] {n, n, fast}, n, other[1], other[2]);
+            }
+        }
+    }
+
+    private static void promise1QuorumsOutOfRangeTogether() {
+        for (int odd : new int[] {Integer.MIN_VALUE, Integer.MAX_VALUE, 0, 6, 1 << 30, (1 << 30) + 2}) {
+            sizes(new int[] {3, odd, odd}, 3, 2, 3);
+            sizes(new int[] {5, odd, -odd}, 5, 3, 4);
+        }
+    }
+
+    // "2 Q is more than N"; with F = N nothing else stands in the way.
+    private static void promise1TwiceClassicIsMoreThanN() {
+        sizes(new int[] {3, 2, 3}, 3, 2, 3);
+        sizes(new int[] {3, 1, 3}, 3, 2, 3);
+        sizes(new int[] {4, 3, 4}, 4, 3, 4);
+        sizes(new int[] {4, 2, 4}, 4, 3, 3);
+        sizes(new int[] {4, 1, 4}, 4, 3, 3);
+        sizes(new int[] {5, 3, 5}, 5, 3, 5);
+        sizes(new int[] {5, 2, 5}, 5, 3, 4);
+        sizes(new int[] {5, 1, 5}, 5, 3, 4);
+    }
+
+    // "Q + 2 F is more than 2 N": each row is just more, then just as much, then less.
+    private static void promise1ClassicAndTwiceFastIsMoreThanTwiceN() {
+        sizes(new int[] {3, 3, 2}, 3, 3, 2);
+        sizes(new int[] {3, 2, 2}, 3, 2, 3);
+        sizes(new int[] {3, 3, 1}, 3, 2, 3);
+        sizes(new int[] {4, 3, 3}, 4, 3, 3);
+        sizes(new int[] {4, 4, 3}, 4, 4, 3);
+        sizes(new int[] {4, 4, 2}, 4, 3, 3);
+        sizes(new int[] {4, 4, 1}, 4, 3, 3);
+        sizes(new int[] {5, 5, 3}, 5, 5, 3);
+        sizes(new int[] {5, 4, 3}, 5, 3, 4);
+        sizes(new int[] {5, 3, 3}, 5, 3, 4);
+        sizes(new int[] {5, 5, 2}, 5, 3, 4);
     }
 
     private static void promise1QuorumsCountedAgainstTheAcceptorsThereAre() {
@@ -72,17 +116,17 @@ public final class NewObjectTest {
         sizes(new int[] {1, 1, 1}, 3, 2, 3);
     }
 
-    private static void promise1NothingHasHappened() {
-        DUE.at("a new object");
-        Run run = new Run(DUE, 4, 3, 3);
+    private static void promise1NothingHasHappened(int n) {
+        DUE.at("a new object, N " + n);
+        Run run = new Run(DUE, n, 0, 0);
         DUE.is("waiting()", run.x.waiting(), 0);
         DUE.is("lost()", run.x.lost(), 0);
         DUE.is("message(0)", run.x.message(0), FastBallots.BAD);
-        for (int who : new int[] {0, 1, 2, 3, 8, 9, 10}) {
+        for (int who : new int[] {0, 1, 2, n - 1, 8, 9, 10}) {
             DUE.is("halt(" + who + ", false)", run.x.halt(who, false), false);
         }
         for (int slot = 0; slot < 3; slot++) {
-            for (int a = 0; a < 4; a++) {
+            for (int a = 0; a < n; a++) {
                 run.acceptor(a, slot, 0, 0, 0);
             }
             run.coordinator(8, slot, 0, 0);
