@@ -15,6 +15,7 @@ public final class CoordinatorTest {
         promise15ClassicAndFree();
         promise15WaitingForAValue();
         valueThatIsNotWaitedFor();
+        pickedIsNotProposed();
         promisesThatDoNotCount();
         slotsStandApart();
         DUE.end();
@@ -100,14 +101,18 @@ public final class CoordinatorTest {
 
         DUE.at("begin forgets the votes that promises told");
         Run told = new Run(DUE, 3, 2, 3);
-        told.proposeTo(0, 9, 2);
-        told.askAndPromise(0, 1, 0, 1);
-        told.hand(Run.VOTE_FOR, 0, 1, 2);
+        told.give(0, 6, 0);
+        told.give(0, 9, 2);
+        told.askAndPromise(0, 1, 1, 2);
+        told.hand(Run.VOTE_FOR, 0, 1, 0);
         told.clear();
-        told.askAndPromise(0, 2, 2);
-        told.askAndPromise(0, 5, 0, 1);
-        told.coordinator(8, 0, 5, 3);
-        DUE.is("VOTE FOR any", told.x.value(told.find(Run.VOTE_FOR, 0, 5, 0)), 0);
+        told.askAndPromise(0, 3, 1, 2);
+        told.hand(Run.VOTE_FOR, 0, 3, 2);
+        told.clear();
+        told.askAndPromise(0, 5, 2);
+        told.askAndPromise(0, 6, 0, 1);
+        told.coordinator(8, 0, 6, 3);
+        DUE.is("the vote of round 1, not that of round 3", told.x.value(told.find(Run.VOTE_FOR, 0, 6, 0)), 6);
 
         DUE.at("begin keeps the first value");
         Run value = new Run(DUE, 3, 2, 3);
@@ -217,6 +222,22 @@ public final class CoordinatorTest {
         voting.clear();
         voting.askAndPromise(0, 2, 0, 1);
         DUE.is("it is kept all the same", voting.x.value(voting.find(Run.VOTE_FOR, 0, 2, 0)), 5);
+    }
+
+    private static void pickedIsNotProposed() {
+        DUE.at("a value that it picked was not proposed to it");
+        Run run = new Run(DUE, 3, 2, 3);
+        run.give(0, 6, 2);
+        run.askAndPromise(0, 1, 0, 1);
+        run.hand(Run.VOTE_FOR, 0, 1, 2);
+        run.clear();
+        run.askAndPromise(0, 5, 1, 2);
+        DUE.is("picked", run.x.value(run.find(Run.VOTE_FOR, 0, 5, 0)), 6);
+        run.clear();
+        run.askAndPromise(0, 6, 0, 1);
+        run.coordinator(8, 0, 6, 2);
+        run.proposeTo(0, 8, 8);
+        DUE.is("the first value proposed", run.x.value(run.find(Run.VOTE_FOR, 0, 6, 0)), 8);
     }
 
     private static void promisesThatDoNotCount() {

@@ -18,6 +18,7 @@ public final class HaltBoundsTest {
             promise3CoordinatorIsHalted(who);
         }
         promise6SoAlready();
+        promise6InEverySlot();
         DUE.end();
     }
 
@@ -217,6 +218,36 @@ public final class HaltBoundsTest {
                     DUE.is("halt(" + who + ", false) again", x.halt(who, false), false);
                 }
             }
+        }
+    }
+
+    private static void promise6InEverySlot() {
+        DUE.at("one that is halted is so in every slot");
+        for (int slot = 0; slot < 3; slot++) {
+            Run run = newRun();
+            run.x.propose(slot, 1);
+            run.x.begin(slot, 2);
+            for (int who : new int[] {0, 8, 10}) {
+                run.x.halt(who, true);
+            }
+            DUE.is("begin(slot, 5)", run.x.begin(slot, 5), FastBallots.BAD);
+            // All PROPOSE and ASK; then the promises of 1 and 2, which 8 does not take.
+            run.deliverFirst(8);
+            run.acceptor(0, slot, 0, 0, 0);
+            run.acceptor(1, slot, 2, 0, 0);
+            run.deliverFirst(2);
+            run.coordinator(8, slot, 2, 1);
+            run.x.halt(8, false);
+            run.x.begin(slot, 6);
+            // ASK to 0, 1 and 2, the promises of 1 and 2; then VOTE FOR has no value.
+            run.deliverFirst(5);
+            run.coordinator(8, slot, 6, 2);
+            run.proposeTo(slot, 7, 8);
+            // VOTE FOR to 0, 1 and 2; then what 1 and 2 tell to 8 and to the learner.
+            run.deliverFirst(7);
+            DUE.is("chosen", run.x.chosen(slot), 7);
+            DUE.is("learned", run.x.learned(slot), 0);
+            run.acceptor(0, slot, 0, 0, 0);
         }
     }
 }

@@ -8,6 +8,8 @@ public final class HaltTest {
         promise6AcceptorKeepsWhatItKnows();
         promise6CoordinatorDoesNothing();
         promise6CoordinatorKeepsWhatItKnows();
+        promise6CoordinatorKeepsItsFirstValue();
+        promise6AcceptorKeepsItsFirstValue();
         promise6LearnerDoesNothing();
         DUE.end();
     }
@@ -99,6 +101,29 @@ public final class HaltTest {
         run.hand(Run.ASK, 0, 2, 2);
         run.hand(Run.PROMISE, 0, 2, 8);
         run.coordinator(8, 0, 2, 2);
+    }
+
+    private static void promise6CoordinatorKeepsItsFirstValue() {
+        DUE.at("halted coordinator keeps its first value");
+        Run run = new Run(DUE, 3, 2, 3);
+        run.proposeTo(0, 5, 9);
+        run.x.halt(9, true);
+        run.x.halt(9, false);
+        run.proposeTo(0, 6, 9);
+        run.askAndPromise(0, 4, 0, 1);
+        DUE.is("VOTE FOR", run.x.value(run.find(Run.VOTE_FOR, 0, 4, 0)), 5);
+    }
+
+    private static void promise6AcceptorKeepsItsFirstValue() {
+        DUE.at("halted acceptor keeps its first value");
+        Run run = new Run(DUE, 3, 2, 3);
+        run.proposeTo(0, 5, 2);
+        run.x.halt(2, true);
+        run.x.halt(2, false);
+        run.proposeTo(0, 6, 2);
+        run.askAndPromise(0, 3, 0, 1);
+        run.hand(Run.VOTE_FOR, 0, 3, 2);
+        run.acceptor(2, 0, 3, 5, 3);
     }
 
     private static void promise6LearnerDoesNothing() {

@@ -12,6 +12,7 @@ public final class LearnerTest {
         roundsDoNotAddUp();
         valuesDoNotAddUp();
         promise16OnlyWhatIsTold();
+        promise16StaysLearned();
         promise17And18VotesEverMade();
         slotsStandApart();
         DUE.end();
@@ -148,6 +149,23 @@ public final class LearnerTest {
         answers(run, 0, 7);
         run.hand(Run.VOTED, 0, 3, 10);
         answers(run, 7, 7);
+    }
+
+    private static void promise16StaysLearned() {
+        DUE.at("told again in a later round");
+        Run run = new Run(DUE, 3, 2, 3);
+        run.proposeTo(0, 7, 8);
+        run.proposeTo(0, 9, 0, 1, 2);
+        run.askAndPromise(0, 2, 0, 1);
+        run.hand(Run.VOTE_FOR, 0, 2, 0, 1);
+        run.hand(Run.VOTED, 0, 2, 10, 10);
+        answers(run, 7, 7);
+        run.askAndPromise(0, 3, 1, 2);
+        run.hand(Run.VOTE_FOR, 0, 3, 0, 1, 2);
+        for (int told = 1; told <= 3; told++) {
+            run.hand(Run.VOTED, 0, 3, 10);
+            answers(run, 7, 7);
+        }
     }
 
     private static void promise17And18VotesEverMade() {
