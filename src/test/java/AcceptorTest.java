@@ -10,7 +10,13 @@ public final class AcceptorTest {
         promise12OpenVotesForWhatIsProposedThen();
         promise12OpenVotesForWhatWasProposedFirst();
         promise12OpenNoMoreInALaterRound();
+        promise12OpenAfterAVoteInAnEarlierRound();
+        promise12AnyAfterAVoteInAnEarlierRound();
+        promise12ValueThatComesAfterAVoteIsKept();
+        promise12ValueThatAnOpenOneVotedForIsKept();
+        promise12TheFirstOfManyValues();
         promise12NewAcceptorIsNotOpen();
+        proposedIsNotVoted();
         promise13VotesAgainInALaterRound();
         votedGoesToCoordinatorThenLearner();
         slotsStandApart();
@@ -127,6 +133,114 @@ public final class AcceptorTest {
         run.acceptor(0, 0, 3, 9, 3);
         run.hand(Run.VOTE_FOR, 0, 1, 1);
         run.acceptor(1, 0, 3, 0, 0);
+    }
+
+    /** Acceptor 0 has voted for 6 in classic round 2, the others have not, and nothing waits. */
+    private static void voteForSix(Run run) {
+        run.proposeTo(0, 6, 8);
+        run.askAndPromise(0, 2, 1, 2);
+        run.hand(Run.VOTE_FOR, 0, 2, 0);
+        run.acceptor(0, 0, 2, 6, 2);
+        run.clear();
+    }
+
+    /** VOTE FOR any of fast round 3, which the others promised, comes to acceptor 0. */
+    private static void openInRoundThree(Run run) {
+        run.askAndPromise(0, 3, 1, 2);
+        DUE.is("VOTE FOR any", run.x.value(run.find(Run.VOTE_FOR, 0, 3, 0)), 0);
+        run.hand(Run.VOTE_FOR, 0, 3, 0);
+    }
+
+    private static void promise12OpenAfterAVoteInAnEarlierRound() {
+        DUE.at("open, with a vote of an earlier round");
+        Run run = new Run(DUE, 3, 2, 3);
+        voteForSix(run);
+        openInRoundThree(run);
+        run.acceptor(0, 0, 3, 6, 2);
+        run.waits(Run.VOTED, 0, 3, 9, false);
+        run.proposeTo(0, 9, 0);
+        run.acceptor(0, 0, 3, 9, 3);
+        run.waits(Run.VOTED, 0, 3, 9, true);
+        run.waits(Run.VOTED, 0, 3, 10, true);
+    }
+
+    private static void promise12AnyAfterAVoteInAnEarlierRound() {
+        DUE.at("ANY, with a value and a vote of an earlier round for another");
+        Run run = new Run(DUE, 3, 2, 3);
+        run.proposeTo(0, 9, 0);
+        voteForSix(run);
+        openInRoundThree(run);
+        run.acceptor(0, 0, 3, 9, 3);
+    }
+
+    private static void promise12ValueThatComesAfterAVoteIsKept() {
+        DUE.at("the first value comes after a vote");
+        Run run = new Run(DUE, 3, 2, 3);
+        voteForSix(run);
+        run.proposeTo(0, 9, 0);
+        run.proposeTo(0, 4, 0);
+        run.acceptor(0, 0, 2, 6, 2);
+        DUE.is("waiting()", run.x.waiting(), 0);
+        openInRoundThree(run);
+        run.acceptor(0, 0, 3, 9, 3);
+    }
+
+    private static void promise12ValueThatAnOpenOneVotedForIsKept() {
+        DUE.at("the first value came while it was open");
+        Run run = new Run(DUE, 3, 2, 3);
+        run.askAndPromise(0, 1, 1, 2);
+        run.hand(Run.VOTE_FOR, 0, 1, 0);
+        run.proposeTo(0, 9, 0);
+        run.acceptor(0, 0, 1, 9, 1);
+        run.clear();
+        run.proposeTo(0, 4, 0);
+        run.acceptor(0, 0, 1, 9, 1);
+        openInRoundThree(run);
+        run.acceptor(0, 0, 3, 9, 3);
+    }
+
+    private static void promise12TheFirstOfManyValues() {
+        DUE.at("one value before, one in each round that is begun");
+        Run run = new Run(DUE, 3, 2, 3);
+        run.proposeTo(0, 5, 0);
+        for (int round = 1; round <= 9; round += 2) {
+            run.x.begin(0, round);
+            run.hand(Run.ASK, 0, round, 0);
+            run.clear();
+            run.proposeTo(0, 4, 0);
+            run.proposeTo(0, 5 + round, 0);
+        }
+        run.acceptor(0, 0, 9, 0, 0);
+        run.askAndPromise(0, 11, 1, 2);
+        run.hand(Run.VOTE_FOR, 0, 11, 0);
+        run.acceptor(0, 0, 11, 5, 11);
+
+        DUE.at("one value before a vote, another between its round and the next");
+        Run voted = new Run(DUE, 3, 2, 3);
+        voted.proposeTo(0, 5, 0);
+        voted.askAndPromise(0, 1, 1, 2);
+        voted.hand(Run.VOTE_FOR, 0, 1, 0);
+        voted.clear();
+        voted.x.begin(0, 3);
+        voted.hand(Run.ASK, 0, 3, 0);
+        voted.proposeTo(0, 4, 0);
+        voted.hand(Run.ASK, 0, 3, 1, 2);
+        // The promises of 1 and 2, behind that of 0, which does not come.
+        voted.drop(Run.PROMISE, 0, 3, 9);
+        voted.hand(Run.PROMISE, 0, 3, 9, 9);
+        voted.hand(Run.VOTE_FOR, 0, 3, 0);
+        voted.acceptor(0, 0, 3, 5, 3);
+    }
+
+    private static void proposedIsNotVoted() {
+        DUE.at("PROMISE of one that has a value and no vote");
+        Run run = new Run(DUE, 3, 2, 3);
+        run.proposeTo(0, 9, 0, 1);
+        run.x.begin(0, 1);
+        run.hand(Run.ASK, 0, 1, 0, 1);
+        DUE.is("no vote", run.x.value(run.find(Run.PROMISE, 0, 1, 8)), 0);
+        run.hand(Run.PROMISE, 0, 1, 8, 8);
+        DUE.is("its coordinator is free", run.x.value(run.find(Run.VOTE_FOR, 0, 1, 0)), 0);
     }
 
     private static void promise12NewAcceptorIsNotOpen() {

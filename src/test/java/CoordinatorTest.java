@@ -9,12 +9,15 @@ public final class CoordinatorTest {
         promise3EachRoundHasItsCoordinator();
         promise3AsksAllInOrder();
         promise3Refused();
+        promise3InEveryPhase();
         promise3ForgetsWhatWasTold();
         promises14And15RefusedForOthers();
         promise15FastAndFree();
         promise15ClassicAndFree();
         promise15WaitingForAValue();
+        promise15WaitingInEveryClassicRound();
         valueThatIsNotWaitedFor();
+        valueThatWasWaitedForIsKept();
         pickedIsNotProposed();
         promisesThatDoNotCount();
         slotsStandApart();
@@ -76,6 +79,30 @@ public final class CoordinatorTest {
         DUE.is("begin(0, 9) again", x.begin(0, 9), BAD);
         run.hand(Run.PROMISE, 0, 9, 8);
         run.coordinator(8, 0, 9, 3);
+    }
+
+    private static void promise3InEveryPhase() {
+        DUE.at("begin in phase 1");
+        Run run = new Run(DUE, 3, 2, 3);
+        run.x.begin(0, 1);
+        run.coordinator(8, 0, 1, 1);
+        DUE.is("begin(0, 2)", run.x.begin(0, 2), 6);
+        run.coordinator(8, 0, 2, 1);
+        run.clear();
+        DUE.at("begin in phase 2");
+        run.askAndPromise(0, 6, 0, 1);
+        run.coordinator(8, 0, 6, 2);
+        DUE.is("begin(0, 9)", run.x.begin(0, 9), 4);
+        run.coordinator(8, 0, 9, 1);
+        run.proposeTo(0, 5, 8);
+        run.coordinator(8, 0, 9, 1);
+        DUE.at("begin in phase 3");
+        run.hand(Run.ASK, 0, 9, 0, 1);
+        run.hand(Run.PROMISE, 0, 9, 8, 8);
+        run.coordinator(8, 0, 9, 3);
+        run.clear();
+        DUE.is("begin(0, 10)", run.x.begin(0, 10), 3);
+        run.coordinator(8, 0, 10, 1);
     }
 
     private static void promise3ForgetsWhatWasTold() {
@@ -198,6 +225,27 @@ public final class CoordinatorTest {
         DUE.is("a second value does nothing", run.x.waiting(), 3);
     }
 
+    private static void promise15WaitingInEveryClassicRound() {
+        for (int round = 2; round <= 12; round += 2) {
+            DUE.at("waiting for a value in round " + round);
+            Run run = new Run(DUE, 3, 2, 3);
+            int who = round % 4 == 2 ? 8 : 9;
+            run.askAndPromise(0, round, 0, 1);
+            run.coordinator(who, 0, round, 2);
+            run.proposeTo(0, 5, 17 - who);
+            run.coordinator(who, 0, round, 2);
+            run.clear();
+            run.proposeTo(0, 6, who);
+            run.coordinator(who, 0, round, 3);
+            run.coordinator(17 - who, 0, 0, 0);
+            DUE.is("waiting()", run.x.waiting(), 3);
+            for (int a = 0; a < 3; a++) {
+                DUE.is("message(" + a + ")", run.x.message(a), 400000 + 100 * round + a);
+                DUE.is("value(" + a + ")", run.x.value(a), 6);
+            }
+        }
+    }
+
     private static void valueThatIsNotWaitedFor() {
         DUE.at("PROPOSE before it leads a round");
         Run run = new Run(DUE, 3, 2, 3);
@@ -222,6 +270,22 @@ public final class CoordinatorTest {
         voting.clear();
         voting.askAndPromise(0, 2, 0, 1);
         DUE.is("it is kept all the same", voting.x.value(voting.find(Run.VOTE_FOR, 0, 2, 0)), 5);
+    }
+
+    private static void valueThatWasWaitedForIsKept() {
+        DUE.at("a value that came in phase 2 is the first one in a later round");
+        Run run = new Run(DUE, 3, 2, 3);
+        run.askAndPromise(0, 2, 0, 1);
+        run.proposeTo(0, 5, 8);
+        run.coordinator(8, 0, 2, 3);
+        run.clear();
+        run.proposeTo(0, 6, 8);
+        run.askAndPromise(0, 6, 0, 1);
+        run.coordinator(8, 0, 6, 3);
+        DUE.is("VOTE FOR", run.x.value(run.find(Run.VOTE_FOR, 0, 6, 0)), 5);
+        run.clear();
+        run.askAndPromise(0, 10, 0, 1);
+        DUE.is("VOTE FOR once more", run.x.value(run.find(Run.VOTE_FOR, 0, 10, 0)), 5);
     }
 
     private static void pickedIsNotProposed() {

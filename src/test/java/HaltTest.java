@@ -5,12 +5,16 @@ public final class HaltTest {
     public static void main(String[] args) {
         promise6WhoCanBeHalted();
         promise6AcceptorDoesNothing();
+        for (int a = 0; a < 5; a++) {
+            promise6OneOfFiveDoesNothing(a);
+        }
         promise6AcceptorKeepsWhatItKnows();
         promise6CoordinatorDoesNothing();
         promise6CoordinatorKeepsWhatItKnows();
         promise6CoordinatorKeepsItsFirstValue();
         promise6AcceptorKeepsItsFirstValue();
         promise6LearnerDoesNothing();
+        promise6MessagesAreSentAllTheSame();
         DUE.end();
     }
 
@@ -48,6 +52,24 @@ public final class HaltTest {
         run.askAndPromise(0, 3, 0, 1);
         run.hand(Run.VOTE_FOR, 0, 3, 0);
         DUE.is("what was proposed while halted did nothing", run.x.vote(0, 0), 6);
+    }
+
+    private static void promise6OneOfFiveDoesNothing(int halted) {
+        DUE.at("acceptor " + halted + " of five is halted");
+        Run run = new Run(DUE, 5, 3, 4);
+        DUE.is("halt", run.x.halt(halted, true), true);
+        run.x.propose(0, 7);
+        run.x.begin(0, 1);
+        // 7 PROPOSE, 5 ASK; then 4 PROMISE, and VOTE FOR to all; 4 of them vote and tell it to two.
+        run.deliverFirst(12);
+        DUE.is("waiting()", run.x.waiting(), 4);
+        run.deliverFirst(9);
+        DUE.is("waiting()", run.x.waiting(), 8);
+        for (int a = 0; a < 5; a++) {
+            int round = a == halted ? 0 : 1;
+            run.acceptor(a, 0, round, 7 * round, round);
+        }
+        DUE.is("votes(0, 1, 7)", run.x.votes(0, 1, 7), 4);
     }
 
     private static void promise6AcceptorKeepsWhatItKnows() {
@@ -124,6 +146,38 @@ public final class HaltTest {
         run.askAndPromise(0, 3, 0, 1);
         run.hand(Run.VOTE_FOR, 0, 3, 2);
         run.acceptor(2, 0, 3, 5, 3);
+    }
+
+    private static void promise6MessagesAreSentAllTheSame() {
+        DUE.at("messages are sent to those that are halted too");
+        Run run = new Run(DUE, 3, 2, 3);
+        Used x = run.x;
+        for (int who : new int[] {0, 9, 10}) {
+            DUE.is("halt(" + who + ", true)", x.halt(who, true), true);
+        }
+        DUE.is("propose(0, 7)", x.propose(0, 7), 5);
+        DUE.is("begin(0, 2)", x.begin(0, 2), 8);
+        int[] due = {100000, 100001, 100002, 100008, 100009, 200200, 200201, 200202};
+        for (int i = 0; i < due.length; i++) {
+            DUE.is("message(" + i + ")", x.message(i), due[i]);
+        }
+        x.halt(8, true);
+        run.hand(Run.ASK, 0, 2, 1, 2);
+        DUE.is("PROMISE", x.message(6), 300208);
+        DUE.is("PROMISE", x.message(7), 300208);
+        x.halt(8, false);
+        run.hand(Run.PROPOSE, 0, 0, 8);
+        run.hand(Run.PROMISE, 0, 2, 8, 8);
+        DUE.is("VOTE FOR", x.message(5), 400200);
+        x.halt(8, true);
+        run.hand(Run.VOTE_FOR, 0, 2, 1);
+        DUE.is("VOTED to the coordinator", x.message(7), 500208);
+        DUE.is("VOTED to the learner", x.message(8), 500210);
+        DUE.is("waiting()", x.waiting(), 9);
+        DUE.is("propose(0, 8)", x.propose(0, 8), 14);
+        DUE.is("PROPOSE to 8", x.message(12), 100008);
+        DUE.is("PROPOSE to 9", x.message(13), 100009);
+        DUE.is("lost()", x.lost(), 0);
     }
 
     private static void promise6LearnerDoesNothing() {

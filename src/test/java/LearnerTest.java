@@ -14,7 +14,9 @@ public final class LearnerTest {
         promise16OnlyWhatIsTold();
         promise16StaysLearned();
         promise17And18VotesEverMade();
+        chosenIsNotTheEnd();
         slotsStandApart();
+        slotsDoNotAddUp();
         DUE.end();
     }
 
@@ -181,6 +183,41 @@ public final class LearnerTest {
         answers(run, 0, 7);
         DUE.is("votes(0, 2, 7)", run.x.votes(0, 2, 7), 2);
         DUE.is("votes(0, 3, 7)", run.x.votes(0, 3, 7), 1);
+    }
+
+    private static void chosenIsNotTheEnd() {
+        DUE.at("propose and begin after a value is chosen and learned");
+        Run run = new Run(DUE, 3, 2, 3);
+        run.proposeTo(0, 7, 8);
+        run.askAndPromise(0, 2, 0, 1);
+        run.hand(Run.VOTE_FOR, 0, 2, 0, 1);
+        run.hand(Run.VOTED, 0, 2, 10, 10);
+        answers(run, 7, 7);
+        run.clear();
+        DUE.is("propose(0, 5)", run.x.propose(0, 5), 5);
+        run.deliverFirst(5);
+        DUE.is("begin(0, 5)", run.x.begin(0, 5), 3);
+        // 3 ASK, 3 PROMISE, 3 VOTE FOR: what is chosen is picked.
+        run.deliverFirst(9);
+        DUE.is("votes(0, 5, 7)", run.x.votes(0, 5, 7), 3);
+        DUE.is("votes(0, 5, 5)", run.x.votes(0, 5, 5), 0);
+        answers(run, 7, 7);
+    }
+
+    private static void slotsDoNotAddUp() {
+        DUE.at("one vote for one value in each of three slots");
+        Run run = new Run(DUE, 3, 2, 3);
+        for (int slot = 0; slot < 3; slot++) {
+            run.proposeTo(slot, 7, 8);
+            run.askAndPromise(slot, 2, 0, 1);
+            run.hand(Run.VOTE_FOR, slot, 2, slot);
+            run.hand(Run.VOTED, slot, 2, 10);
+        }
+        for (int slot = 0; slot < 3; slot++) {
+            DUE.is("learned(" + slot + ")", run.x.learned(slot), 0);
+            DUE.is("chosen(" + slot + ")", run.x.chosen(slot), 0);
+            DUE.is("votes(" + slot + ", 2, 7)", run.x.votes(slot, 2, 7), 1);
+        }
     }
 
     private static void slotsStandApart() {

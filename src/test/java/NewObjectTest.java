@@ -15,6 +15,7 @@ public final class NewObjectTest {
         for (int n = 3; n <= 5; n++) {
             promise1NothingHasHappened(n);
         }
+        promise1ObjectsStandApart();
         promise19Size();
         DUE.end();
     }
@@ -135,6 +136,24 @@ public final class NewObjectTest {
             DUE.is("chosen(" + slot + ")", run.x.chosen(slot), 0);
             DUE.is("votes(" + slot + ", 1, 1)", run.x.votes(slot, 1, 1), 0);
         }
+    }
+
+    private static void promise1ObjectsStandApart() {
+        DUE.at("two objects");
+        Run busy = new Run(DUE, 5, 3, 4);
+        Run idle = new Run(DUE, 3, 3, 2);
+        busy.proposeTo(0, 7, 8);
+        busy.askAndPromise(0, 2, 0, 1, 2);
+        busy.hand(Run.VOTE_FOR, 0, 2, 0, 1, 2);
+        busy.hand(Run.VOTED, 0, 2, 10, 10, 10);
+        busy.x.halt(0, true);
+        busy.fillTo(60);
+        busy.x.begin(1, 1);
+        DUE.is("learned(0)", busy.x.learned(0), 7);
+        new Seen(idle.x, 0, 7).compare(DUE, new Seen(new Used(3, 3, 2), 0, 7));
+        DUE.is("halt(0, false)", idle.x.halt(0, false), false);
+        DUE.is("size(0)", busy.x.size(0), 5);
+        DUE.is("size(0)", idle.x.size(0), 3);
     }
 
     private static void promise19Size() {

@@ -8,7 +8,13 @@ public final class PickTest {
         fastVoteOfNearlyAllIsPicked();
         fastVotesApartPickTheLeast();
         fastVotesOfOtherRoundsDoNotCount();
+        for (int fast = 1; fast <= 11; fast += 2) {
+            for (int round = fast + 1; round <= 12; round++) {
+                votesOfEveryFastRound(fast, round);
+            }
+        }
         goesOnWhenNoneCanBeChosen();
+        goesOnWithWhatWasVotedFor();
         waitsWhileOneCanBeChosen();
         waitsForAClassicQuorum();
         goesOnOnlyOnce();
@@ -143,6 +149,20 @@ public final class PickTest {
         }
     }
 
+    private static void votesOfEveryFastRound(int fast, int round) {
+        DUE.at("nearly all voted in " + fast + ", picked in " + round);
+        Run alike = new Run(DUE, 5, 3, 4);
+        voteFast(alike, fast, new int[] {0, 1, 2}, 4, 9, 9);
+        alike.askAndPromise(0, round, 0, 1, 2);
+        votesFor(alike, round, 9);
+
+        DUE.at("votes apart in " + fast + ", picked in " + round);
+        Run apart = new Run(DUE, 5, 3, 4);
+        voteFast(apart, fast, new int[] {0, 1, 2}, 8, 4, 9);
+        apart.askAndPromise(0, round, 0, 1, 2);
+        votesFor(apart, round, 4);
+    }
+
     private static void goesOnWhenNoneCanBeChosen() {
         DUE.at("votes apart");
         Run run = new Run(DUE, 3, 2, 3);
@@ -166,6 +186,18 @@ public final class PickTest {
         few.hand(Run.VOTED, 0, 5, 8);
         few.coordinator(8, 0, 6, 3);
         votesFor(few, 6, 4);
+    }
+
+    private static void goesOnWithWhatWasVotedFor() {
+        for (int proposed : new int[] {1, 6, 9, 20}) {
+            DUE.at("votes apart, " + proposed + " was proposed to the coordinator");
+            Run run = new Run(DUE, 3, 2, 3);
+            run.proposeTo(0, proposed, 8);
+            voteFast(run, 1, new int[] {0, 1}, 9, 4);
+            run.hand(Run.VOTED, 0, 1, 8, 8);
+            run.coordinator(8, 0, 2, 3);
+            votesFor(run, 2, 4);
+        }
     }
 
     private static void waitsWhileOneCanBeChosen() {

@@ -27,10 +27,14 @@ public final class QuorumBoundsTest {
             test.promisesInAFastRound();
             test.promisesInAClassicRoundWithoutAValue();
             test.promisesInAClassicRoundWithAValue();
-            test.chosenInAClassicRound();
-            test.chosenInAFastRound();
-            test.learnedInAClassicRound();
-            test.learnedInAFastRound();
+            for (int classic = 2; classic <= 12; classic += 2) {
+                test.chosenInAClassicRound(classic);
+                test.learnedInAClassicRound(classic);
+            }
+            for (int fast = 1; fast <= 11; fast += 2) {
+                test.chosenInAFastRound(fast);
+                test.learnedInAFastRound(fast);
+            }
             test.votesOfEveryKindToldToTheCoordinator();
             test.votesOfEveryKindPicked();
         }
@@ -87,7 +91,7 @@ public final class QuorumBoundsTest {
 
     /** One value has come to all; VOTE FOR of the round waits for each acceptor, and nothing else. */
     private Run readyToVote(String sentence, int round) {
-        Run run = run(sentence);
+        Run run = run(sentence + " in round " + round);
         run.x.propose(0, 17);
         run.x.begin(0, round);
         run.deliverFirst(n + 2 + n + n);
@@ -104,12 +108,12 @@ public final class QuorumBoundsTest {
         }
     }
 
-    private void chosenInAClassicRound() {
-        chosenAt(readyToVote("chosen when a classic quorum voted for it", 2), 2, q);
+    private void chosenInAClassicRound(int round) {
+        chosenAt(readyToVote("chosen when a classic quorum voted for it", round), round, q);
     }
 
-    private void chosenInAFastRound() {
-        chosenAt(readyToVote("chosen when a fast quorum voted for it", 1), 1, f);
+    private void chosenInAFastRound(int round) {
+        chosenAt(readyToVote("chosen when a fast quorum voted for it", round), round, f);
     }
 
     private void learnedAt(Run run, int round, int quorum) {
@@ -123,12 +127,12 @@ public final class QuorumBoundsTest {
         }
     }
 
-    private void learnedInAClassicRound() {
-        learnedAt(readyToVote("when Q acceptors have told the same value", 12), 12, q);
+    private void learnedInAClassicRound(int round) {
+        learnedAt(readyToVote("when Q acceptors have told the same value", round), round, q);
     }
 
-    private void learnedInAFastRound() {
-        learnedAt(readyToVote("when F acceptors have told the same value", 11), 11, f);
+    private void learnedInAFastRound(int round) {
+        learnedAt(readyToVote("when F acceptors have told the same value", round), round, f);
     }
 
     /** One of the ways in which so many can have one of these values each; 0 stands for none. */
