@@ -22,6 +22,13 @@ final class Due {
         }
     }
 
+    void is(Object call, String got, String want) {
+        asked++;
+        if (!got.equals(want)) {
+            tell(call + " answered " + got + ", due is " + want);
+        }
+    }
+
     void tell(String fault) {
         wrong++;
         System.out.println(place + ": " + fault);

@@ -6,7 +6,7 @@ import java.util.Arrays;
 import java.util.List;
 import java.util.TreeSet;
 
-/** The public face of the document, and rules 1 and 5 of LANGUAGE.md as far as reflection sees them. */
+/** The public face of the document, and rules 1, 5 and 11 of LANGUAGE.md as far as reflection sees them. */
 public final class FaceTest {
     private static final List<String> METHODS = List.of(
             "int propose(int, int)", "int begin(int, int)", "int deliver(int)", "boolean drop(int)",
@@ -34,9 +34,12 @@ public final class FaceTest {
             DUE.is(inside + " is not of the face",
                     Modifier.isPublic(inside.getModifiers()) || Modifier.isProtected(inside.getModifiers()), false);
         }
+        DUE.is("some twelve classes at most", face.getDeclaredClasses().length <= 12, true);
+        fewParameters(face);
         staticFields(face);
         for (Class<?> inside : face.getDeclaredClasses()) {
             staticFields(inside);
+            fewParameters(inside);
             DUE.is(inside + " has some twenty fields at most", inside.getDeclaredFields().length <= 20, true);
         }
         DUE.end();
@@ -69,6 +72,12 @@ public final class FaceTest {
         for (Method method : face.getDeclaredMethods()) {
             DUE.is(told(method) + " bears a name of the face", isPrivate(method) && names.contains(method.getName()),
                     false);
+        }
+    }
+
+    private static void fewParameters(Class<?> owner) {
+        for (Method method : owner.getDeclaredMethods()) {
+            DUE.is(method + " takes seven parameters at most", method.getParameterCount() <= 7, true);
         }
     }
 
